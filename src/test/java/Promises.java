@@ -51,6 +51,36 @@ public final class Promises {
         return x;
     }
 
+    /** All that the calls of 'what there is' tell of the CACHES, MAGAZINES, PAGES and numbers. */
+    private static String told(MagazineDepot x) {
+        StringBuilder out = new StringBuilder();
+        for (int what = 0; what < 8; what++) out.append(x.count(what)).append(' ');
+        for (int c = 0; c < x.count(0); c++) {
+            for (int what = 0; what < 16; what++) out.append(x.of(c, what)).append(' ');
+            for (int i = 0; i < 16; i++) out.append(x.magazine(c, i / 4, i % 4)).append(' ');
+            out.append(x.tally(c)).append('\n');
+        }
+        for (int page = 0; page < 32; page++) out.append(x.page(page, 1)).append(' ').append(x.map(page, 0)).append(' ').append(x.map(page, 1)).append('\n');
+        return out.toString();
+    }
+
+    /** Two CACHES, FULL and EMPTY MAGAZINES, BUFFERS that ended, an INTERVAL that ended, one QUIET. */
+    private static MagazineDepot busy() {
+        MagazineDepot x = threeFull();
+        is(x.cache(2, 400, 64), 1);
+        takes(x, 1, 3, 1056, 1456, 2144);
+        gives(x, 3, 1056);
+        is(x.drain(1, 3), 1);
+        gives(x, 3, 1456);
+        takes(x, 0, 1, 112, 96, 80, 64, 48);
+        is(x.of(0, 9), 1);
+        is(x.interval(), 0);
+        is(x.interval(), 1);
+        gives(x, 2, 48);
+        is(x.of(0, 7), 1);
+        return x;
+    }
+
     public static void main(String[] args) {
         Runnable[] all = {Promises::p1, Promises::p2, Promises::p3, Promises::p4, Promises::p5, Promises::p6, Promises::p7,
             Promises::p8, Promises::p9, Promises::p10, Promises::p11, Promises::p12, Promises::p13, Promises::p14, Promises::p15,
@@ -386,6 +416,23 @@ public final class Promises {
         is(x.of(0, 9), 0);
         is(x.of(0, 15), 0);
         is(x.count(1), 4);
+        // An EMPTY one that is fetched since the INTERVAL began was not too many.
+        MagazineDepot y = threeFull();
+        takes(y, 0, 1, 112, 96, 80, 64, 48, 32);
+        is(y.interval(), 0);
+        is(y.of(0, 11), 1);
+        gives(y, 2, 32);
+        is(y.of(0, 9), 0);
+        is(y.of(0, 11), 0);
+        is(y.count(1), 5);
+        takes(y, 0, 2, 32);
+        takes(y, 0, 0, 176, 160, 144, 128);
+        gives(y, 3, 32, 48, 64, 80, 96);
+        is(y.of(0, 8), 1);
+        takes(y, 0, 1, 48);
+        is(y.of(0, 9), 1);
+        is(y.interval(), 0);
+        is(y.of(0, 9), 1);
     }
 
     private static void roundsFollow() {
@@ -407,6 +454,35 @@ public final class Promises {
         is(x.of(0, 7), 0);
         is(x.of(0, 4), 2);
         eightIsTheMost();
+        allGoWithTheRounds();
+    }
+
+    /** ROUNDS change: FULL and EMPTY ones too are EMPTIED and UNMADE, and all of each PROCESSOR's. */
+    private static void allGoWithTheRounds() {
+        MagazineDepot x = threeFull();
+        takes(x, 0, 1, 112, 96, 80);
+        is(x.of(0, 8), 1);
+        takes(x, 0, 1, 64, 48);
+        is(x.of(0, 9), 1);
+        is(x.give(48, 2), 6);
+        is(x.give(64, 2), 7);
+        is(x.give(80, 2), 8);
+        is(x.give(96, 2), 9);
+        is(x.give(112, 2), 10);
+        is(x.of(0, 8), 1);
+        is(x.limit(0, 10), 99);
+        takes(x, 0, 1, 32, 64);
+        is(x.of(0, 9), 1);
+        is(x.of(0, 6), 12);
+        is(x.count(1), 7);
+        is(x.interval(), 7);
+        is(x.count(1), 0);
+        is(x.count(7), 0);
+        for (int what = 8; what < 12; what++) is(x.of(0, what), 0);
+        for (int i = 0; i < 16; i++) is(x.magazine(0, i / 4, i % 4), NOT);
+        is(x.of(0, 15), 8);
+        takes(x, 0, 0, 48);
+        is(x.of(0, 6), 0);
     }
 
     private static void eightIsTheMost() {
@@ -630,6 +706,14 @@ public final class Promises {
     }
 
     private static void p21() {
+        MagazineDepot far = with(0, 400, 64);
+        // From bytes 32, 432, 1120, 1520, 2208, 2608, 3296: LINES 1, 13, 3, 15, 5, 1, 7.
+        takes(far, 0, 0, 32, 432, 1120, 1520, 2208, 2608, 3296);
+        is(far.lines(0, 0), 6);
+        is(far.lines(0, 1), 1);
+        is(far.give(32, 0), 1);
+        is(far.lines(0, 0), 6);
+        is(far.lines(0, 1), 0);
         MagazineDepot x = with(0, 16, 8);
         is(x.lines(0, 0), 0);
         is(x.lines(0, 1), 0);
@@ -697,6 +781,13 @@ public final class Promises {
         is(x.trip(1, 0, 5, 0), VOID);
         is(x.trip(0, 4, 5, 0), VOID);
         is(x.trip(0, 0, 5, 3), VOID);
+        MagazineDepot y = busy();
+        String before = told(y);
+        is(y.drawn(3, 400, 3) > 0 ? 1 : 0, 1);
+        is(y.trip(0, 0, 3, 1), 3);
+        is(y.trip(0, 0, 40, 1), 40);
+        is(y.ahead(0, 1, 40, 39) > 0 ? 1 : 0, 1);
+        is(told(y).equals(before) ? 1 : 0, 1);
         is(x.trip(0, 0, 5, -1), VOID);
     }
 
@@ -906,6 +997,9 @@ public final class Promises {
         is(tell(x, "a=0@0;b=0@0;c=0@0;d=0@0;e=0@0;~a@0;~b@0;~c@0;~d@0;~e@0"), 1);
         is(x.tuned(0), 5);
         is(x.tuned(1), 1);
+        is(tell(x, "a=0@0;b=0@0;c=0@0;d=0@0;e=0@0;f=0@0;g=0@0;h=0@0;~a@0;~b@0;~c@0;~d@0;~e@0;~f@0;~g@0;~h@0"), 1);
+        is(x.tuned(0), 8);
+        is(x.tuned(1), 1);
         is(tell(x, "!"), 1);
         is(x.tuned(0), 1);
         is(x.tuned(1), 0);
@@ -925,6 +1019,12 @@ public final class Promises {
         is(tell(y, "a=0@0;b=0@0;c=0@0;d=0@0;~a@0;~b@0;~c@0;~d@0;!;a=0@1;b=0@1"), 1);
         is(y.tuned(0), 4);
         is(y.tuned(1), 1);
+        MagazineDepot z = busy();
+        is(tell(z, "a=0@0;b=1@1;~a@2;!;~b@3"), 1);
+        String before = told(z);
+        is(z.tuned(0), 1);
+        is(z.dry(0), 5);
+        is(told(z).equals(before) ? 1 : 0, 1);
     }
 
     private static void p31() {
@@ -991,6 +1091,17 @@ public final class Promises {
         is(x.of(1, 14), 0);
         is(x.tally(1), 0);
         is(x.magazine(1, 0, 0), NOT);
+        MagazineDepot y = busy();
+        String before = told(y);
+        is(y.image(), 2);
+        is(y.limit(1, 9), 4);
+        takes(y, 0, 3, 208);
+        is(y.drain(0, 2), 1);
+        for (int i = 0; i < 5; i++) is(y.interval() >= 0 ? 1 : 0, 1);
+        is(y.reap(1), 1);
+        is(told(y).equals(before) ? 1 : 0, 0);
+        is(y.back(), 2);
+        is(told(y).equals(before) ? 1 : 0, 1);
     }
 
     private static void p34() {

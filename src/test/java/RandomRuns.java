@@ -113,7 +113,7 @@ public final class RandomRuns {
     // ---- acts
 
     private void act() {
-        switch (random.nextInt(26)) {
+        switch (random.nextInt(28)) {
             case 0: case 1: case 2: takes(); break;
             case 3: case 4: case 5: gives(); break;
             case 6: call("interval"); break;
@@ -133,6 +133,7 @@ public final class RandomRuns {
             case 20: if (random.nextInt(10) == 0) makeCache(); break;
             case 21: binAct(); break;
             case 22: if (random.nextInt(3) == 0) binStory(); else binAct(); break;
+            case 26: case 27: pump(); break;
             case 23: for (int i = 0; i < 4; i++) intervalRun(); break;
             default: look();
         }
@@ -152,6 +153,16 @@ public final class RandomRuns {
     private void gives() {
         int p = processor();
         for (int n = random.nextInt(12); n >= 0; n--) call("give", live(), p);
+    }
+
+    /** BUFFERS go from one PROCESSOR to another through THE DEPOT, which then has EMPTY ones. */
+    private void pump() {
+        int c = cacheNo(), p = random.nextInt(4), q = random.nextInt(4), n = random.nextInt(24);
+        List<Integer> got = new ArrayList<>();
+        for (int i = 0; i < n; i++) got.add((int) call("take", c, p));
+        for (int address : got) if (random.nextInt(9) > 0) call("give", address, q);
+        if (random.nextInt(3) == 0) call("interval");
+        for (int what = 6; what < 12; what++) call("of", c, what);
     }
 
     private void look() {
