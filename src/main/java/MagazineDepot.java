@@ -1047,8 +1047,8 @@ public final class MagazineDepot {
             }
             for (int i = 0; i < MOST_MAGAZINES; i++) {
                 magazines[i].copyFrom(other.magazines[i]);
+                isMade[i] = other.isMade[i];
             }
-            System.arraycopy(other.isMade, 0, isMade, 0, MOST_MAGAZINES);
             cacheCount = other.cacheCount;
             made = other.made;
             intervals = other.intervals;

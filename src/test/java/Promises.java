@@ -64,7 +64,16 @@ public final class Promises {
         return out.toString();
     }
 
-    /** Two CACHES, FULL and EMPTY MAGAZINES, BUFFERS that ended, an INTERVAL that ended, one QUIET. */
+    /** The first seed from 0 on of which the first act by a draw is of that number, and a TAKE then if 'next' is 3. */
+    private static int seedOf(int act, int next) {
+        for (int seed = 0; ; seed++) {
+            int z = seed * 1103515245 + 12345;
+            int then = z * 1103515245 + 12345;
+            if ((z >>> 16) % 5 == act && (next < 0 || (then >>> 16) % 5 == next)) return seed;
+        }
+    }
+
+    /** Three CACHES, an EMPTY MAGAZINE, BUFFERS that ended, an INTERVAL that ended, one CACHE that is QUIET. */
     private static MagazineDepot busy() {
         MagazineDepot x = threeFull();
         is(x.cache(2, 400, 64), 1);
@@ -74,10 +83,10 @@ public final class Promises {
         gives(x, 3, 1456);
         takes(x, 0, 1, 112, 96, 80, 64, 48);
         is(x.of(0, 9), 1);
+        is(x.cache(3, 64, 8), 2);
         is(x.interval(), 0);
-        is(x.interval(), 1);
-        gives(x, 2, 48);
-        is(x.of(0, 7), 1);
+        is(x.of(0, 11), 1);
+        is(x.of(2, 7), 1);
         return x;
     }
 
@@ -225,6 +234,9 @@ public final class Promises {
         is(x.give(432, 1), 2);
         is(x.give(1120, 0), 3);
         is(x.of(0, 6), 2);
+        is(x.cache(0, 16, 8), 1);
+        takes(x, 1, 0, 2080);
+        is(x.give(2080, 0), 1);
         noMoreMagazines();
         fitOfEachKind();
         roomInPrevious();
@@ -511,6 +523,27 @@ public final class Promises {
         for (int i = 0; i < 3; i++) is(x.interval(), 0);
         is(x.of(0, 4), 1);
         is(x.of(0, 7), 0);
+        // ROUNDS are 1 and stay: MAGAZINES do as well.
+        takes(x, 0, 0, 32);
+        is(x.give(32, 0), 1);
+        is(x.limit(0, 9), 0);
+        for (int i = 0; i < 4; i++) is(x.interval(), 0);
+        is(x.of(0, 7), 0);
+        is(x.magazine(0, 0, 0), 1);
+        // QUIET is 0 by VISITS beyond LIMIT, too.
+        for (int i = 0; i < 2; i++) is(x.interval(), 0);
+        is(x.of(0, 7), 2);
+        is(x.limit(0, 0), 9);
+        takes(x, 0, 0, 32, 48);
+        gives(x, 0, 32, 48);
+        is(x.interval(), 2);
+        is(x.of(0, 7), 0);
+        is(x.of(0, 4), 2);
+        MagazineDepot y = threeFull();
+        is(y.limit(0, 0), 99);
+        is(y.interval(), 5);
+        is(y.of(0, 15), 10);
+        for (int i = 0; i < 10; i++) is(y.state(32 + 16 * i), 0);
     }
 
     private static void p11() {
@@ -529,6 +562,27 @@ public final class Promises {
         is(x.drain(0, 0), 0);
         takes(x, 0, 0, 112);
         is(x.drain(0, 0), 1);
+        // What another PROCESSOR is given then is not this one's.
+        MagazineDepot y = threeFull();
+        is(y.drain(0, 0), 4);
+        takes(y, 0, 1, 112, 96, 80, 64, 48, 32);
+        is(y.interval(), 0);
+        is(y.interval(), 1);
+        gives(y, 2, 32, 48, 64, 80, 96, 112);
+        is(y.count(1), 5);
+        is(y.magazine(0, 0, 0), NOT);
+        is(y.magazine(0, 0, 2), NOT);
+        // 24 can be MADE again.
+        MagazineDepot z = with(0, 16, 8);
+        for (int i = 0; i < 51; i++) is(z.take(0, 0), 32 + 16 * i);
+        for (int i = 0; i < 48; i++) is(z.give(32 + 16 * i, 0), i + 1);
+        is(z.drain(0, 0), 4);
+        is(z.count(1), 22);
+        is(z.give(800, 0), 45);
+        is(z.give(816, 1), 46);
+        is(z.count(1), 24);
+        is(z.give(832, 2), 46);
+        is(z.state(832), 0);
     }
 
     private static void p12() {
@@ -586,10 +640,10 @@ public final class Promises {
     private static void p15() {
         MagazineDepot x = with(0, 400, 64);
         takes(x, 0, 0, 32, 432, 1120, 1520, 2208);
-        gives(x, 0, 1120);
+        gives(x, 0, 1120, 32);
         is(x.bytes(-1), BAD);
         is(x.bytes(7), BAD);
-        int[] due = {29 * 1024, 96, 64 + 128, 192 + 128 + 64, 1600, 400, 400};
+        int[] due = {29 * 1024, 96, 64 + 128, 192 + 128 + 64, 1200, 800, 400};
         int all = 0;
         for (int owner = 0; owner < 7; owner++) {
             is(x.bytes(owner), due[owner]);
@@ -837,6 +891,29 @@ public final class Promises {
         is(x.drawn(seed, 2, 2), 0);
         is(x.drawn(seed, 2, 3), 0);
         is(x.count(1), 0);
+        MagazineDepot y = threeFull();
+        is(y.interval(), 0);
+        is(y.drawn(seedOf(0, -1), 1, 0), 0);
+        is(y.drawn(seedOf(0, -1), 1, 1), 2);
+        is(y.drawn(seedOf(3, -1), 1, 3), 2);
+        // Nothing was taken in it: nothing is given back, whatever the draws ahead of it have taken.
+        is(y.drawn(5, 400, 3) > 1 ? 1 : 0, 1);
+        is(y.drawn(seedOf(1, 1), 2, 0), 0);
+        is(y.drawn(seedOf(2, 3), 2, 3), 2);
+        drawnCaches();
+    }
+
+    /** No PAGE is free: a TAKE of CACHE 0 finds the last FREE one, one of CACHE 1 is FULL. */
+    private static void drawnCaches() {
+        MagazineDepot x = with(0, 400, 64);
+        is(x.cache(0, 400, 64), 1);
+        is(x.cache(0, 400, 64), 2);
+        for (int i = 0; i < 63; i++) is(x.take(0, 0) > 0 ? 1 : 0, 1);
+        for (int seed = -20; seed < 60; seed++) {
+            int z = seed * 1103515245 + 12345;
+            boolean isTake = (z >>> 16) % 5 >= 3;
+            is(x.drawn(seed, 1, 2), isTake && (z >>> 10) % 3 != 0 ? 1 : 0);
+        }
     }
 
     private static void p25() {
@@ -924,6 +1001,16 @@ public final class Promises {
         is(x.why(), 0);
         is(x.names(0), 48);
         is(x.names(1), 112);
+        // A RUN that stopped in a pass leaves no pass to the next one.
+        MagazineDepot y = threeFull();
+        is(tell(y, "9(~q@0)"), 1);
+        is(y.run(), 3);
+        is(tell(y, "?0(!)"), 1);
+        is(y.run(), 2);
+        is(y.count(4), 1);
+        is(tell(y, "2(!;0(~q@0))"), 1);
+        is(y.run(), 7);
+        is(y.count(4), 3);
     }
 
     private static void p28() {
@@ -983,6 +1070,12 @@ public final class Promises {
         is(x.dry(0), 1);
         is(x.dry(1), -11);
         is(x.why(), 0);
+        MagazineDepot y = with(1, 16, 8);
+        is(tell(y, "a=0@0;a:5;~a@0;!"), 1);
+        is(y.dry(0), 3);
+        is(y.dry(1), STATE);
+        is(y.dry(3), 1);
+        is(y.names(0), NOT);
     }
 
     private static void p30() {
@@ -1019,12 +1112,32 @@ public final class Promises {
         is(tell(y, "a=0@0;b=0@0;c=0@0;d=0@0;~a@0;~b@0;~c@0;~d@0;!;a=0@1;b=0@1"), 1);
         is(y.tuned(0), 4);
         is(y.tuned(1), 1);
+        leastFullIsNone();
         MagazineDepot z = busy();
         is(tell(z, "a=0@0;b=1@1;~a@2;!;~b@3"), 1);
         String before = told(z);
         is(z.tuned(0), 1);
         is(z.dry(0), 5);
         is(told(z).equals(before) ? 1 : 0, 1);
+    }
+
+    /** As above, by a RUN of which the best r has a FULL one as the INTERVAL ends: 17 are given. */
+    private static void leastFullIsNone() {
+        MagazineDepot x = with(0, 16, 8);
+        is(x.limit(0, 99), 4);
+        is(tell(x, "a=0@1;b=0@1;c=0@1;d=0@1;e=0@1;f=0@1;g=0@1;h=0@1;i=0@1"), 1);
+        is(x.run(), 9);
+        is(tell(x, "j=0@1;k=0@1;l=0@1;m=0@1;n=0@1;o=0@1;p=0@1;q=0@1"), 1);
+        is(x.run(), 8);
+        for (int i = 17; i < 27; i++) is(x.take(0, 2), 32 + 16 * i);
+        for (int i = 17; i < 27; i++) gives(x, 2, 32 + 16 * i);
+        is(x.interval(), 0);
+        is(x.of(0, 10), 3);
+        StringBuilder text = new StringBuilder();
+        for (char variable = 'a'; variable <= 'q'; variable++) text.append('~').append(variable).append("@0;");
+        is(tell(x, text + "!;r=0@1"), 1);
+        is(x.tuned(0), 6);
+        is(x.tuned(1), 4);
     }
 
     private static void p31() {
@@ -1093,14 +1206,14 @@ public final class Promises {
         is(x.magazine(1, 0, 0), NOT);
         MagazineDepot y = busy();
         String before = told(y);
-        is(y.image(), 2);
+        is(y.image(), 3);
         is(y.limit(1, 9), 4);
         takes(y, 0, 3, 208);
-        is(y.drain(0, 2), 1);
+        is(y.drain(0, 1), 1);
         for (int i = 0; i < 5; i++) is(y.interval() >= 0 ? 1 : 0, 1);
         is(y.reap(1), 1);
         is(told(y).equals(before) ? 1 : 0, 0);
-        is(y.back(), 2);
+        is(y.back(), 3);
         is(told(y).equals(before) ? 1 : 0, 1);
     }
 
