@@ -1076,6 +1076,13 @@ public final class Promises {
         is(y.dry(1), STATE);
         is(y.dry(3), 1);
         is(y.names(0), NOT);
+        // The VISITS ahead of it in the INTERVAL, 5, are more than LIMIT or not.
+        MagazineDepot z = threeFull();
+        is(tell(z, "!;a=0@1"), 1);
+        is(z.limit(0, 4), 99);
+        is(z.dry(2), 0);
+        is(z.limit(0, 5), 4);
+        is(z.dry(2), 1);
     }
 
     private static void p30() {
