@@ -2,68 +2,7 @@
  * The document's promises, one method each: ordinary calls, the edges it names, wrong calls.
  * The answers due were worked out by hand from the document.
  */
-public final class Promises {
-    private static final int BAD = -1, NOT = -2, FULL = -3, STATE = -5, VOID = -2000000000;
-    private static final int LEAST = Integer.MIN_VALUE, MOST = Integer.MAX_VALUE;
-    private static int promise;
-    private static int row;
-    private static int wrong;
-
-    private static void is(long got, long due) {
-        row++;
-        if (got != due) {
-            wrong++;
-            StackTraceElement at = new Throwable().getStackTrace()[1];
-            System.out.println("promise " + promise + ", line " + at.getLineNumber() + ": answered " + got + ", due is " + due);
-        }
-    }
-
-    /** Feeds a TEXT and makes it the TRACE: what trace() answers. */
-    private static int tell(MagazineDepot x, String text) {
-        for (int i = 0; i < text.length(); i++) is(x.feed(text.charAt(i)), i + 1);
-        return x.trace();
-    }
-
-    private static MagazineDepot with(int kind, int size, int step) {
-        MagazineDepot x = new MagazineDepot();
-        is(x.cache(kind, size, step), 0);
-        return x;
-    }
-
-    private static void takes(MagazineDepot x, int cache, int processor, int... due) {
-        for (int address : due) is(x.take(cache, processor), address);
-    }
-
-    private static void gives(MagazineDepot x, int processor, int... addresses) {
-        for (int address : addresses) {
-            is(x.give(address, processor) >= 0 ? 1 : 0, 1);
-            is(x.state(address) == 1 ? 1 : 0, 0);
-        }
-    }
-
-    /** Ten BUFFERS of size 16 given by processor 0: three FULL ones, PREVIOUS, LOADED; one more is LIVE, 192. */
-    private static MagazineDepot threeFull() {
-        MagazineDepot x = with(0, 16, 8);
-        is(x.limit(0, 99), 4);
-        takes(x, 0, 0, 32, 48, 64, 80, 96, 112, 128, 144, 160, 176, 192);
-        for (int i = 0; i < 10; i++) is(x.give(32 + 16 * i, 0), i + 1);
-        is(x.of(0, 8), 3);
-        return x;
-    }
-
-    /** All that the calls of 'what there is' tell of the CACHES, MAGAZINES, PAGES and numbers. */
-    private static String told(MagazineDepot x) {
-        StringBuilder out = new StringBuilder();
-        for (int what = 0; what < 8; what++) out.append(x.count(what)).append(' ');
-        for (int c = 0; c < x.count(0); c++) {
-            for (int what = 0; what < 16; what++) out.append(x.of(c, what)).append(' ');
-            for (int i = 0; i < 16; i++) out.append(x.magazine(c, i / 4, i % 4)).append(' ');
-            out.append(x.tally(c)).append('\n');
-        }
-        for (int page = 0; page < 32; page++) out.append(x.page(page, 1)).append(' ').append(x.map(page, 0)).append(' ').append(x.map(page, 1)).append('\n');
-        return out.toString();
-    }
-
+public final class Promises extends Check {
     /** The first seed from 0 on of which the first act by a draw is of that number, and a TAKE then if 'next' is 3. */
     private static int seedOf(int act, int next) {
         for (int seed = 0; ; seed++) {
@@ -73,35 +12,12 @@ public final class Promises {
         }
     }
 
-    /** Three CACHES, an EMPTY MAGAZINE, BUFFERS that ended, an INTERVAL that ended, one CACHE that is QUIET. */
-    private static MagazineDepot busy() {
-        MagazineDepot x = threeFull();
-        is(x.cache(2, 400, 64), 1);
-        takes(x, 1, 3, 1056, 1456, 2144);
-        gives(x, 3, 1056);
-        is(x.drain(1, 3), 1);
-        gives(x, 3, 1456);
-        takes(x, 0, 1, 112, 96, 80, 64, 48);
-        is(x.of(0, 9), 1);
-        is(x.cache(3, 64, 8), 2);
-        is(x.interval(), 0);
-        is(x.of(0, 11), 1);
-        is(x.of(2, 7), 1);
-        return x;
-    }
-
     public static void main(String[] args) {
-        Runnable[] all = {Promises::p1, Promises::p2, Promises::p3, Promises::p4, Promises::p5, Promises::p6, Promises::p7,
+        runAll(Promises::p1, Promises::p2, Promises::p3, Promises::p4, Promises::p5, Promises::p6, Promises::p7,
             Promises::p8, Promises::p9, Promises::p10, Promises::p11, Promises::p12, Promises::p13, Promises::p14, Promises::p15,
             Promises::p16, Promises::p17, Promises::p18, Promises::p19, Promises::p20, Promises::p21, Promises::p22, Promises::p23,
             Promises::p24, Promises::p25, Promises::p26, Promises::p27, Promises::p28, Promises::p29, Promises::p30, Promises::p31,
-            Promises::p32, Promises::p33, Promises::p34, Promises::p35, Promises::p36, Promises::p37, Promises::p38, Promises::p39};
-        for (Runnable one : all) {
-            promise++;
-            one.run();
-        }
-        System.out.println(wrong == 0 ? "all " + row + " answers are as due" : wrong + " answers are not as due");
-        if (wrong != 0) System.exit(1);
+            Promises::p32, Promises::p33, Promises::p34, Promises::p35, Promises::p36, Promises::p37, Promises::p38, Promises::p39);
     }
 
     private static void p1() {
@@ -841,7 +757,7 @@ public final class Promises {
         is(y.trip(0, 0, 3, 1), 3);
         is(y.trip(0, 0, 40, 1), 40);
         is(y.ahead(0, 1, 40, 39) > 0 ? 1 : 0, 1);
-        is(told(y).equals(before) ? 1 : 0, 1);
+        is(told(y), before);
         is(x.trip(0, 0, 5, -1), VOID);
     }
 
@@ -931,10 +847,9 @@ public final class Promises {
     }
 
     private static void p26() {
-        MagazineDepot x = new MagazineDepot();
         String[] right = {"!", "a=0@0", "z=3@3", "~a@3", "b:0", "b:999", "0(!)", "999(!)", "007(!)", "?3(!;!)", "!;!", "1(2(3(4(5(!)))))",
             "?0(1(?0(1(?0(!)))));!", "1(!);1(!)", "1(1(!);a:12)"};
-        for (String text : right) is(tell(x, text), 1);
+        for (String text : right) is(tell(new MagazineDepot(), text), 1);
         Object[][] faults = {{"", 0}, {"a", 1}, {"A=0@0", 0}, {"`", 0}, {"{", 0}, {"a=4@0", 2}, {"a=0@4", 4}, {"a=0@", 4}, {"a=0", 3},
             {"a=00@0", 3}, {"a =0@0", 1}, {" !", 0}, {"~", 1}, {"~0@0", 1}, {"~a=0", 2}, {"~a@4", 3}, {"a:", 2}, {"a:x", 2},
             {"a:1000", 5}, {"a:10!", 4}, {"!;", 2}, {"!!", 1}, {";", 0}, {"1", 1}, {"1!", 1}, {"1000(!)", 3}, {"1()", 2}, {"1(", 2},
@@ -942,9 +857,12 @@ public final class Promises {
             {"1(1(1(1(1(1(!))))))", 11}, {"1(1(1(1(1(?0(!))))))", 12}, {"1(1(1(1(1(999", 13}, {"?0(?0(?0(?0(?0(0(!", 16},
             {"1(!);1(!)!", 9}, {"!;a=0@0;~a@0;\u00e9", 13}};
         for (Object[] of : faults) {
-            is(tell(x, (String) of[0]), -100 - (Integer) of[1]);
-            is(x.count(3), 0);
+            MagazineDepot y = new MagazineDepot();
+            is(tell(y, (String) of[0]), -100 - (Integer) of[1]);
+            is(y.count(3), 0);
+            is(y.run(), STATE);
         }
+        MagazineDepot x = new MagazineDepot();
         is(tell(x, "!;!"), 1);
         is(tell(x, "!!"), -101);
         is(x.run(), 2);
@@ -1125,7 +1043,7 @@ public final class Promises {
         String before = told(z);
         is(z.tuned(0), 1);
         is(z.dry(0), 5);
-        is(told(z).equals(before) ? 1 : 0, 1);
+        is(told(z), before);
     }
 
     /** As above, by a RUN of which the best r has a FULL one as the INTERVAL ends: 17 are given. */
@@ -1219,9 +1137,8 @@ public final class Promises {
         is(y.drain(0, 1), 1);
         for (int i = 0; i < 5; i++) is(y.interval() >= 0 ? 1 : 0, 1);
         is(y.reap(1), 1);
-        is(told(y).equals(before) ? 1 : 0, 0);
         is(y.back(), 3);
-        is(told(y).equals(before) ? 1 : 0, 1);
+        is(told(y), before);
     }
 
     private static void p34() {

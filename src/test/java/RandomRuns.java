@@ -17,6 +17,9 @@ public final class RandomRuns {
     private static final int[] ODD = {Integer.MIN_VALUE, Integer.MIN_VALUE + 1, -1000, -2, -1, 0, 1, 2, 3, 4, 5, 6, 7, 8, 16, 25,
         26, 31, 32, 39, 40, 41, 61, 62, 63, 64, 99, 100, 255, 256, 400, 401, 1023, 1024, 32767, 32768, Integer.MAX_VALUE - 1, Integer.MAX_VALUE};
 
+    /** What an object answers behind its 512th call is free. */
+    private static final int MOST_CALLS = 512;
+
     private final Random random;
     private final long seed;
     private final MagazineDepot ours = new MagazineDepot();
@@ -53,13 +56,12 @@ public final class RandomRuns {
     private boolean go() {
         int caches = random.nextInt(20) == 0 ? 0 : 1 + random.nextInt(4);
         for (int i = 0; i < caches; i++) makeCache();
-        int most = random.nextInt(4) == 0 ? 1500 : 512;
-        while (calls < most && !wrong) act();
+        while (calls < MOST_CALLS && !wrong) act();
         return !wrong;
     }
 
     private long call(String name, int... args) {
-        if (wrong) return 0;
+        if (wrong || calls == MOST_CALLS) return 0;
         calls++;
         Object[] boxed = Arrays.stream(args).boxed().toArray();
         try {
