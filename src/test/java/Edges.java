@@ -83,9 +83,56 @@ public final class Edges extends Check {
         for (int bin = 0; bin < 4; bin++) is(x.at(bin, 0), -11);
         is(x.interval(), 0);
         is(x.count(4), 1);
-        // One object's CACHES are not another's.
-        is(x.cache(0, 16, 8), 0);
-        is(new MagazineDepot().count(0), 0);
+        ofOneObject();
+        fiveHundredAndTwelve();
+    }
+
+    private static void ofOneObject() {
+        // What one object has is not another's, be it made ahead or behind.
+        MagazineDepot x = busy();
+        MagazineDepot ahead = new MagazineDepot();
+        is(tell(x, "a=0@0;~b@0"), 1);
+        is(x.run(), 2);
+        is(x.image(), 3);
+        is(x.bin(0, 3), 1);
+        is(x.lay(0, 0, 112), 1);
+        is(x.feed('!'), 1);
+        String before = told(x);
+        MagazineDepot y = threeFull();
+        is(y.interval(), 0);
+        is(y.drain(0, 0), 4);
+        for (MagazineDepot other : new MagazineDepot[] {ahead, y, new MagazineDepot()}) {
+            is(other.run(), STATE);
+            is(other.why(), 0);
+            is(other.back(), STATE);
+            is(other.at(0, 0), -11);
+            is(other.names(0), NOT);
+            is(other.count(3), 0);
+            is(other.count(4), other == y ? 1 : 0);
+            is(other.count(0), other == y ? 1 : 0);
+            is(other.image(), other == y ? 1 : 0);
+            is(other.bin(0, 1), 1);
+            is(other.feed('x'), 1);
+        }
+        is(told(x), before);
+        is(x.names(0), 176);
+        is(x.at(0, 0), 112);
+        is(x.why(), -11);
+        is(x.dry(0), 2);
+        is(x.back(), 3);
+    }
+
+    private static void fiveHundredAndTwelve() {
+        // At most 512 calls: the last of them is answered as any other.
+        MagazineDepot x = with(0, 16, 8);
+        for (int call = 2; call < 512; call++) is(x.take(0, 3), 32 + (call - 2) / 62 * 1024 + (call - 2) % 62 * 16);
+        is(x.count(6), 510);
+        MagazineDepot y = with(0, 16, 8);
+        is(tell(y, "99(a=0@0;b=0@1;~a@2;~b@3;!)"), 1);
+        int visits = y.dry(2);
+        int rounds = y.tuned(0);
+        for (int call = 32; call < 512; call++) is(y.tuned(0), rounds);
+        is(y.dry(2), visits);
     }
 
     private static void p2() {

@@ -9,7 +9,7 @@ import java.util.Random;
 
 /**
  * Runs of calls by draws from a fixed seed: MagazineDepot and PlainModel must answer alike.
- * Arguments: how many runs (default 250), the first seed.
+ * Arguments: how many runs (default 1000), the first seed.
  */
 public final class RandomRuns {
     private static final Map<String, Method> OURS = methods(MagazineDepot.class);
@@ -43,7 +43,7 @@ public final class RandomRuns {
     }
 
     public static void main(String[] args) {
-        int runs = args.length > 0 ? Integer.parseInt(args[0]) : 250;
+        int runs = args.length > 0 ? Integer.parseInt(args[0]) : 1000;
         long first = args.length > 1 ? Long.parseLong(args[1]) : 1;
         if (!OURS.keySet().equals(MODELS.keySet())) throw new IllegalStateException(OURS.keySet() + " " + MODELS.keySet());
         int bad = 0;
