@@ -783,9 +783,33 @@ public final class Edges extends Check {
         is(z.of(1, 7), 2);
         // Two FULL ones, and the one of CACHE 1, whose QUIET is 3 by that.
         is(z.interval(), 2 + 1);
+        asAtFirst();
         for (int cache : new int[] {-1, 2, 3, 4, LEAST, MOST}) is(y.drain(cache, 2), BAD);
         for (int processor : new int[] {-1, 4, LEAST, MOST}) is(y.drain(0, processor), BAD);
         is(y.magazine(0, 2, 0), 1);
+    }
+
+    private static void asAtFirst() {
+        // None is there then, as at first: none is brought by the VISITS that follow but one that became PREVIOUS since.
+        for (int how = 0; how < 3; how++) {
+            MagazineDepot x = with(0, 16, 8);
+            for (int i = 0; i < 9; i++) is(x.take(0, 0), 32 + 16 * i);
+            if (how > 0) {
+                gives(x, 0, 32, 48, 64);
+                is(how == 1 ? x.drain(0, 0) : x.limit(0, 1), how == 1 ? 3 : 4);
+                is(x.interval(), how == 1 ? 0 : 2);
+                is(x.limit(0, 99), how == 1 ? 4 : 1);
+            }
+            int rounds = x.of(0, 4);
+            is(rounds, how == 2 ? 3 : 2);
+            for (int i = 0; i < 6; i++) {
+                is(x.give(80 + 16 * i, 0), i + 1);
+                is(x.of(0, 6), i / rounds + 1);
+                is(x.count(1), i / rounds + 1);
+                is(x.of(0, 8), i < 2 * rounds ? 0 : 1);
+                is(x.magazine(0, 0, 2), i < rounds ? NOT : rounds);
+            }
+        }
     }
 
     private static void p12() {
